@@ -1,0 +1,63 @@
+/** Counts what is not as due, and tells the kind of exception that a call throws. */
+final class Checks {
+    interface Call {
+        long answer();
+    }
+
+    private int made;
+    private int wrong;
+
+    void same(String what, long want, long got) {
+        made++;
+        if (want != got) {
+            wrong++;
+            System.out.println(what + " answered " + got + ", due is " + want);
+        }
+    }
+
+    void same(String what, String want, String got) {
+        made++;
+        if (!want.equals(got)) {
+            wrong++;
+            System.out.println(what + ": " + got + ", due is " + want);
+        }
+    }
+
+    /** What a call answers, as a text: its number, or throws.TheException. */
+    static String told(Call call) {
+        try {
+            return String.valueOf(call.answer());
+        } catch (RuntimeException e) {
+            return "throws." + e.getClass().getSimpleName() + (isThrownByHand(e) ? "" : " by the machine");
+        }
+    }
+
+    /** The machine's own exceptions are raised in the library or are of kinds that no code here throws. */
+    private static boolean isThrownByHand(RuntimeException e) {
+        Class<?> kind = e.getClass();
+        boolean isDueKind = kind == IndexOutOfBoundsException.class
+                || kind == IllegalStateException.class
+                || kind == IllegalArgumentException.class;
+        StackTraceElement[] trace = e.getStackTrace();
+        return isDueKind && trace.length > 0 && trace[0].getClassName().equals("ShelfMarks");
+    }
+
+    void outOfBounds(String what, Call call) {
+        same(what, "throws.IndexOutOfBoundsException", told(call));
+    }
+
+    void illegalState(String what, Call call) {
+        same(what, "throws.IllegalStateException", told(call));
+    }
+
+    void illegalArgument(String what, Call call) {
+        same(what, "throws.IllegalArgumentException", told(call));
+    }
+
+    void end(String name) {
+        System.out.println(name + ": " + made + " checks, " + wrong + " wrong");
+        if (wrong != 0 || made == 0) {
+            System.exit(1);
+        }
+    }
+}

@@ -1,0 +1,162 @@
+import java.util.Random;
+
+/** Long mixed runs of calls, the class and the model side by side; the seeds are fixed, so a fault comes again. */
+public final class ModelTest {
+    private static final Checks CHECKS = new Checks();
+    private static final int RUNS = 3000;
+    private static final int CALLS = 512;
+    private static final int[] EXTREMES =
+            {-1, -2, 4, 8, 9, 59, 60, 199, 200, 255, 256, 257, Integer.MAX_VALUE, Integer.MIN_VALUE};
+
+    private final Random random;
+    private final ShelfMarks real = new ShelfMarks();
+    private final Model model = new Model();
+    /** How eagerly folders come, in hundredths of the calls; so some runs fill up, others stay small. */
+    private final int eagerness;
+    /** Whether new folders keep coming at one place, which makes marks scarce there. */
+    private final boolean isCrowding;
+    private int crowded = -1;
+
+    private ModelTest(int seed) {
+        random = new Random(seed);
+        eagerness = 15 + random.nextInt(60);
+        isCrowding = random.nextBoolean();
+    }
+
+    public static void main(String[] args) {
+        int[] spreads = new int[9];
+        for (int seed = 0; seed < RUNS; seed++) {
+            ModelTest run = new ModelTest(seed);
+            for (int i = 0; i < CALLS; i++) {
+                run.oneCall(seed, i);
+            }
+            if (seed % 10 == 0) {
+                run.compareAll(seed);
+            }
+            for (int level = 0; level < 9; level++) {
+                spreads[level] += run.model.spread(level);
+            }
+        }
+        // Runs that never crowd a level would leave its rule untested.
+        for (int level = 1; level < 9; level++) {
+            CHECKS.same("the runs spread out level " + level, 1, spreads[level] > 0 ? 1 : 0);
+        }
+        CHECKS.end("ModelTest");
+    }
+
+    private int folder() {
+        if (random.nextInt(30) == 0) {
+            return EXTREMES[random.nextInt(EXTREMES.length)];
+        }
+        if (model.size() == 0 || random.nextInt(40) == 0) {
+            return random.nextInt(70);
+        }
+        int folder = model.first();
+        for (int i = random.nextInt(model.size()); i > 0; i--) {
+            folder = model.next(folder);
+        }
+        return folder;
+    }
+
+    private int below(int end) {
+        return random.nextInt(25) == 0 ? EXTREMES[random.nextInt(EXTREMES.length)] : random.nextInt(end);
+    }
+
+    private void compare(int seed, int i, String call, Checks.Call want, Checks.Call got) {
+        CHECKS.same("run " + seed + ", call " + i + ", " + call, toldByModel(want), Checks.told(got));
+    }
+
+    private static String toldByModel(Checks.Call call) {
+        try {
+            return String.valueOf(call.answer());
+        } catch (RuntimeException e) {
+            return "throws." + e.getClass().getSimpleName();
+        }
+    }
+
+    private void oneCall(int seed, int i) {
+        if (random.nextInt(100) < eagerness) {
+            comingCall(seed, i);
+            return;
+        }
+        int f = folder();
+        int g = folder();
+        int r = below(4);
+        int s = below(4);
+        switch (random.nextInt(12)) {
+            case 0 -> compare(seed, i, "takeOut(" + f + ")", () -> model.takeOut(f), () -> real.takeOut(f));
+            case 1, 2, 3 -> compare(seed, i, "carry(" + f + ", " + g + ")", () -> model.carry(f, g), () -> real.carry(f, g));
+            case 4, 5 -> compare(seed, i, "seat(" + r + ", " + f + ")", () -> model.seat(r, f), () -> real.seat(r, f));
+            case 6, 7 -> compare(seed, i, "passDay()", model::passDay, real::passDay);
+            case 8 -> compare(seed, i, "daysTo(" + r + ", " + s + ")", () -> model.daysTo(r, s), () -> real.daysTo(r, s));
+            case 9 -> compare(seed, i, "wouldMove(" + f + ")", () -> model.wouldMove(f), () -> real.wouldMove(f));
+            default -> askingCall(seed, i, f, r);
+        }
+    }
+
+    private void comingCall(int seed, int i) {
+        if (random.nextInt(4) == 0 && (crowded == -1 || !isCrowding)) {
+            compare(seed, i, "putFirst()", model::putFirst, real::putFirst);
+            return;
+        }
+        if (!isCrowding || model.has(crowded) == 0 || random.nextInt(50) == 0) {
+            crowded = folder();
+        }
+        int f = crowded;
+        compare(seed, i, "putBehind(" + f + ")", () -> model.putBehind(f), () -> real.putBehind(f));
+    }
+
+    private void askingCall(int seed, int i, int f, int r) {
+        int level = below(9);
+        int shelf = below(level >= 0 && level < 9 ? 256 >> level : 9);
+        int m = below(256);
+        switch (random.nextInt(14)) {
+            case 0 -> compare(seed, i, "size()", model::size, real::size);
+            case 1 -> compare(seed, i, "first()", model::first, real::first);
+            case 2 -> compare(seed, i, "next(" + f + ")", () -> model.next(f), () -> real.next(f));
+            case 3 -> compare(seed, i, "previous(" + f + ")", () -> model.previous(f), () -> real.previous(f));
+            case 4 -> compare(seed, i, "has(" + f + ")", () -> model.has(f), () -> real.has(f) ? 1 : 0);
+            case 5 -> compare(seed, i, "mark(" + f + ")", () -> model.mark(f), () -> real.mark(f));
+            case 6 -> compare(seed, i, "ahead(" + f + ")", () -> model.ahead(f), () -> real.ahead(f));
+            case 7 -> compare(seed, i, "from(" + m + ")", () -> model.from(m), () -> real.from(m));
+            case 8 -> compare(seed, i, "gapBehind(" + f + ")", () -> model.gapBehind(f), () -> real.gapBehind(f));
+            case 9 -> compare(seed, i, "load(" + level + ", " + shelf + ")",
+                    () -> model.load(level, shelf), () -> real.load(level, shelf));
+            case 10 -> compare(seed, i, "loaded(" + level + ")", () -> model.loaded(level), () -> real.loaded(level));
+            case 11 -> compare(seed, i, "moved()", model::moved, real::moved);
+            case 12 -> compare(seed, i, "spread(" + level + ")", () -> model.spread(level), () -> real.spread(level));
+            default -> {
+                compare(seed, i, "at(" + r + ")", () -> model.at(r), () -> real.at(r));
+                compare(seed, i, "read(" + r + ")", () -> model.read(r), () -> real.read(r));
+            }
+        }
+    }
+
+    private void compareAll(int seed) {
+        for (int n = -2; n < 202; n++) {
+            int f = n;
+            compare(seed, CALLS, "has(" + f + ")", () -> model.has(f), () -> real.has(f) ? 1 : 0);
+            compare(seed, CALLS, "mark(" + f + ")", () -> model.mark(f), () -> real.mark(f));
+            compare(seed, CALLS, "next(" + f + ")", () -> model.next(f), () -> real.next(f));
+            compare(seed, CALLS, "previous(" + f + ")", () -> model.previous(f), () -> real.previous(f));
+            compare(seed, CALLS, "ahead(" + f + ")", () -> model.ahead(f), () -> real.ahead(f));
+            compare(seed, CALLS, "gapBehind(" + f + ")", () -> model.gapBehind(f), () -> real.gapBehind(f));
+            compare(seed, CALLS, "wouldMove(" + f + ")", () -> model.wouldMove(f), () -> real.wouldMove(f));
+        }
+        for (int n = -2; n < 258; n++) {
+            int m = n;
+            compare(seed, CALLS, "from(" + m + ")", () -> model.from(m), () -> real.from(m));
+        }
+        for (int n = -1; n < 10; n++) {
+            int level = n;
+            compare(seed, CALLS, "loaded(" + n + ")", () -> model.loaded(level), () -> real.loaded(level));
+            compare(seed, CALLS, "spread(" + n + ")", () -> model.spread(level), () -> real.spread(level));
+        }
+        compare(seed, CALLS, "moved()", model::moved, real::moved);
+        for (int n = -1; n < 5; n++) {
+            int r = n;
+            compare(seed, CALLS, "at(" + r + ")", () -> model.at(r), () -> real.at(r));
+            compare(seed, CALLS, "read(" + r + ")", () -> model.read(r), () -> real.read(r));
+        }
+    }
+}
