@@ -75,6 +75,10 @@ final class Model {
         throw new AssertionError("every shelf is loaded");
     }
 
+    boolean allCame() {
+        return came == 200;
+    }
+
     int putFirst() {
         roomForOne();
         put(came, 0);

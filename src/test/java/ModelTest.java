@@ -16,15 +16,19 @@ public final class ModelTest {
     /** Whether new folders keep coming at one place, which makes marks scarce there. */
     private final boolean isCrowding;
     private int crowded = -1;
+    /** Whether folders go about as often as they come, so that all 200 can come. */
+    private final boolean isChanging;
 
     private ModelTest(int seed) {
         random = new Random(seed);
         eagerness = 15 + random.nextInt(60);
         isCrowding = random.nextBoolean();
+        isChanging = random.nextInt(4) == 0;
     }
 
     public static void main(String[] args) {
         int[] spreads = new int[9];
+        int allCame = 0;
         for (int seed = 0; seed < RUNS; seed++) {
             ModelTest run = new ModelTest(seed);
             for (int i = 0; i < CALLS; i++) {
@@ -33,10 +37,12 @@ public final class ModelTest {
             if (seed % 10 == 0) {
                 run.compareAll(seed);
             }
+            allCame += run.model.allCame() ? 1 : 0;
             for (int level = 0; level < 9; level++) {
                 spreads[level] += run.model.spread(level);
             }
         }
+        CHECKS.same("all 200 come in some runs", 1, allCame > 0 ? 1 : 0);
         // Runs that never crowd a level would leave its rule untested.
         for (int level = 1; level < 9; level++) {
             CHECKS.same("the runs spread out level " + level, 1, spreads[level] > 0 ? 1 : 0);
@@ -81,6 +87,10 @@ public final class ModelTest {
         }
         int f = folder();
         int g = folder();
+        if (isChanging && random.nextInt(100) < 85) {
+            compare(seed, i, "takeOut(" + f + ")", () -> model.takeOut(f), () -> real.takeOut(f));
+            return;
+        }
         int r = below(4);
         int s = below(4);
         switch (random.nextInt(12)) {

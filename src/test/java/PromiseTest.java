@@ -411,12 +411,28 @@ public final class PromiseTest {
         ShelfMarks y = allPutLast(60);
         CHECKS.same("60 in: loaded(0)", 60, y.loaded(0));
         CHECKS.same("60 in: loaded(8)", 0, y.loaded(8));
-        for (int level = 0; level < 9; level++) {
-            int found = 0;
-            for (int shelf = 0; shelf < 256 >> level; shelf++) {
-                found += y.load(level, shelf) >= new int[] {1, 2, 3, 5, 8, 14, 24, 42, 73}[level] ? 1 : 0;
+        loadedWhileOneEndFillsUp();
+    }
+
+    /** The shelves at the crowded end pass every load, so that each bound is met exactly. */
+    private static void loadedWhileOneEndFillsUp() {
+        int[] bounds = {1, 2, 3, 5, 8, 14, 24, 42, 73};
+        int[] metExactly = new int[9];
+        ShelfMarks x = new ShelfMarks();
+        while (x.size() < 60) {
+            x.putFirst();
+            for (int level = 0; level < 9; level++) {
+                int found = 0;
+                for (int shelf = 0; shelf < 256 >> level; shelf++) {
+                    int load = x.load(level, shelf);
+                    found += load >= bounds[level] ? 1 : 0;
+                    metExactly[level] += load == bounds[level] || load == bounds[level] - 1 ? 1 : 0;
+                }
+                CHECKS.same(x.size() + " in: loaded(" + level + ")", found, x.loaded(level));
             }
-            CHECKS.same("60 in: loaded(" + level + ")", found, y.loaded(level));
+        }
+        for (int level = 0; level < 8; level++) {
+            CHECKS.same("the bound of level " + level + " is met", 1, metExactly[level] > 1 ? 1 : 0);
         }
     }
 
