@@ -1,26 +1,37 @@
-/** Counts what is not as due, and tells the kind of exception that a call throws. */
+import java.util.ArrayList;
+import java.util.List;
+
+/** Collects what is not as due, and tells the kind of exception that a call throws. */
 final class Checks {
     interface Call {
         long answer();
     }
 
+    private static final int SHOWN = 60;
+
     private int made;
-    private int wrong;
+    private final List<String> faults = new ArrayList<>();
 
     void same(String what, long want, long got) {
         made++;
         if (want != got) {
-            wrong++;
-            System.out.println(what + " answered " + got + ", due is " + want);
+            fault(what + " answered " + got + ", due is " + want);
         }
     }
 
     void same(String what, String want, String got) {
         made++;
         if (!want.equals(got)) {
-            wrong++;
-            System.out.println(what + ": " + got + ", due is " + want);
+            fault(what + ": " + got + ", due is " + want);
         }
+    }
+
+    void fault(String text) {
+        faults.add(text);
+    }
+
+    List<String> faults() {
+        return faults;
     }
 
     /** What a call answers, as a text: its number, or throws.TheException. */
@@ -39,7 +50,11 @@ final class Checks {
                 || kind == IllegalStateException.class
                 || kind == IllegalArgumentException.class;
         StackTraceElement[] trace = e.getStackTrace();
-        return isDueKind && trace.length > 0 && trace[0].getClassName().equals("ShelfMarks");
+        return isDueKind && trace.length > 0 && !isOfTheLibrary(trace[0].getClassName());
+    }
+
+    private static boolean isOfTheLibrary(String className) {
+        return className.startsWith("java.") || className.startsWith("jdk.");
     }
 
     void outOfBounds(String what, Call call) {
@@ -55,8 +70,11 @@ final class Checks {
     }
 
     void end(String name) {
-        System.out.println(name + ": " + made + " checks, " + wrong + " wrong");
-        if (wrong != 0 || made == 0) {
+        for (int i = 0; i < faults.size() && i < SHOWN; i++) {
+            System.out.println(faults.get(i));
+        }
+        System.out.println(name + ": " + made + " checks, " + faults.size() + " wrong");
+        if (!faults.isEmpty() || made == 0) {
             System.exit(1);
         }
     }

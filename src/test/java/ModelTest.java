@@ -4,12 +4,13 @@ import java.util.Random;
 public final class ModelTest {
     private static final Checks CHECKS = new Checks();
     private static final int RUNS = 3000;
-    private static final int CALLS = 512;
+    /** So many of an object's calls are left, in some runs, for questions with any numbers. */
+    private static final int QUESTIONS = 112;
     private static final int[] EXTREMES =
             {-1, -2, 4, 8, 9, 59, 60, 199, 200, 255, 256, 257, Integer.MAX_VALUE, Integer.MIN_VALUE};
 
     private final Random random;
-    private final ShelfMarks real = new ShelfMarks();
+    private final Real real = new Real();
     private final Model model = new Model();
     /** How eagerly folders come, in hundredths of the calls; so some runs fill up, others stay small. */
     private final int eagerness;
@@ -31,13 +32,14 @@ public final class ModelTest {
         int allCame = 0;
         for (int seed = 0; seed < RUNS; seed++) {
             ModelTest run = new ModelTest(seed);
-            for (int i = 0; i < CALLS; i++) {
+            int mixed = seed % 3 == 0 ? Real.CALLS - QUESTIONS : Real.CALLS;
+            for (int i = 0; i < mixed; i++) {
                 run.oneCall(seed, i);
             }
-            if (seed % 10 == 0) {
-                run.compareAll(seed);
+            for (int i = mixed; i < Real.CALLS; i++) {
+                run.anyQuestion(seed, i);
             }
-            allCame += run.model.allCame() ? 1 : 0;
+            allCame += run.model.came == 200 ? 1 : 0;
             for (int level = 0; level < 9; level++) {
                 spreads[level] += run.model.spread(level);
             }
@@ -109,7 +111,7 @@ public final class ModelTest {
             compare(seed, i, "putFirst()", model::putFirst, real::putFirst);
             return;
         }
-        if (!isCrowding || model.has(crowded) == 0 || random.nextInt(50) == 0) {
+        if (!isCrowding || !model.has(crowded) || random.nextInt(50) == 0) {
             crowded = folder();
         }
         int f = crowded;
@@ -119,13 +121,28 @@ public final class ModelTest {
     private void askingCall(int seed, int i, int f, int r) {
         int level = below(9);
         int shelf = below(level >= 0 && level < 9 ? 256 >> level : 9);
-        int m = below(256);
-        switch (random.nextInt(14)) {
+        ask(seed, i, f, r, level, shelf, below(256));
+    }
+
+    /** A question with numbers from just below to just above all that is allowed. */
+    private void anyQuestion(int seed, int i) {
+        int f = random.nextInt(204) - 2;
+        if (random.nextInt(8) == 0) {
+            compare(seed, i, "wouldMove(" + f + ")", () -> model.wouldMove(f), () -> real.wouldMove(f));
+            return;
+        }
+        int level = random.nextInt(11) - 1;
+        int shelf = random.nextInt((level >= 0 && level < 9 ? 256 >> level : 1) + 2) - 1;
+        ask(seed, i, f, random.nextInt(6) - 1, level, shelf, random.nextInt(260) - 2);
+    }
+
+    private void ask(int seed, int i, int f, int r, int level, int shelf, int m) {
+        switch (random.nextInt(15)) {
             case 0 -> compare(seed, i, "size()", model::size, real::size);
             case 1 -> compare(seed, i, "first()", model::first, real::first);
             case 2 -> compare(seed, i, "next(" + f + ")", () -> model.next(f), () -> real.next(f));
             case 3 -> compare(seed, i, "previous(" + f + ")", () -> model.previous(f), () -> real.previous(f));
-            case 4 -> compare(seed, i, "has(" + f + ")", () -> model.has(f), () -> real.has(f) ? 1 : 0);
+            case 4 -> compare(seed, i, "has(" + f + ")", () -> model.has(f) ? 1 : 0, () -> real.has(f) ? 1 : 0);
             case 5 -> compare(seed, i, "mark(" + f + ")", () -> model.mark(f), () -> real.mark(f));
             case 6 -> compare(seed, i, "ahead(" + f + ")", () -> model.ahead(f), () -> real.ahead(f));
             case 7 -> compare(seed, i, "from(" + m + ")", () -> model.from(m), () -> real.from(m));
@@ -135,38 +152,8 @@ public final class ModelTest {
             case 10 -> compare(seed, i, "loaded(" + level + ")", () -> model.loaded(level), () -> real.loaded(level));
             case 11 -> compare(seed, i, "moved()", model::moved, real::moved);
             case 12 -> compare(seed, i, "spread(" + level + ")", () -> model.spread(level), () -> real.spread(level));
-            default -> {
-                compare(seed, i, "at(" + r + ")", () -> model.at(r), () -> real.at(r));
-                compare(seed, i, "read(" + r + ")", () -> model.read(r), () -> real.read(r));
-            }
-        }
-    }
-
-    private void compareAll(int seed) {
-        for (int n = -2; n < 202; n++) {
-            int f = n;
-            compare(seed, CALLS, "has(" + f + ")", () -> model.has(f), () -> real.has(f) ? 1 : 0);
-            compare(seed, CALLS, "mark(" + f + ")", () -> model.mark(f), () -> real.mark(f));
-            compare(seed, CALLS, "next(" + f + ")", () -> model.next(f), () -> real.next(f));
-            compare(seed, CALLS, "previous(" + f + ")", () -> model.previous(f), () -> real.previous(f));
-            compare(seed, CALLS, "ahead(" + f + ")", () -> model.ahead(f), () -> real.ahead(f));
-            compare(seed, CALLS, "gapBehind(" + f + ")", () -> model.gapBehind(f), () -> real.gapBehind(f));
-            compare(seed, CALLS, "wouldMove(" + f + ")", () -> model.wouldMove(f), () -> real.wouldMove(f));
-        }
-        for (int n = -2; n < 258; n++) {
-            int m = n;
-            compare(seed, CALLS, "from(" + m + ")", () -> model.from(m), () -> real.from(m));
-        }
-        for (int n = -1; n < 10; n++) {
-            int level = n;
-            compare(seed, CALLS, "loaded(" + n + ")", () -> model.loaded(level), () -> real.loaded(level));
-            compare(seed, CALLS, "spread(" + n + ")", () -> model.spread(level), () -> real.spread(level));
-        }
-        compare(seed, CALLS, "moved()", model::moved, real::moved);
-        for (int n = -1; n < 5; n++) {
-            int r = n;
-            compare(seed, CALLS, "at(" + r + ")", () -> model.at(r), () -> real.at(r));
-            compare(seed, CALLS, "read(" + r + ")", () -> model.read(r), () -> real.read(r));
+            case 13 -> compare(seed, i, "at(" + r + ")", () -> model.at(r), () -> real.at(r));
+            default -> compare(seed, i, "read(" + r + ")", () -> model.read(r), () -> real.read(r));
         }
     }
 }
