@@ -8,9 +8,27 @@ final class Checks {
     }
 
     private static final int SHOWN = 60;
+    /** Far above what all tests of a class take; a call that fails to end must not hang .ci/run for ever. */
+    private static final long LONGEST_MILLIS = 300_000;
+
+    static {
+        Thread watch = new Thread(Checks::endWhatFailsToEnd);
+        watch.setDaemon(true);
+        watch.start();
+    }
 
     private int made;
     private final List<String> faults = new ArrayList<>();
+
+    private static void endWhatFailsToEnd() {
+        try {
+            Thread.sleep(LONGEST_MILLIS);
+        } catch (InterruptedException e) {
+            return;
+        }
+        System.out.println("a call has not ended after " + LONGEST_MILLIS + " ms");
+        Runtime.getRuntime().halt(1);
+    }
 
     void same(String what, long want, long got) {
         made++;

@@ -1,12 +1,23 @@
 import java.util.ArrayList;
+import java.util.Collections;
 import java.util.List;
+import java.util.function.BiPredicate;
+import java.util.function.IntBinaryOperator;
+import java.util.function.ToIntFunction;
 
 /** The sentences of "What it is" and "Terms" on numbers, limits, marks, shelves, and putting a folder in. */
 public final class MarksSentencesTest {
     private static final Sentences SENTENCES = new Sentences("MarksSentencesTest");
 
+    private interface SpreadMark {
+        int of(int start, int marks, int i, int n);
+    }
+
     public static void main(String[] args) {
-        numbersAndLimits();
+        marksAndCalls();
+        numbers();
+        limits();
+        rangeOfMarks();
         shelves();
         loadedShelves();
         halfWay();
@@ -16,21 +27,60 @@ public final class MarksSentencesTest {
         SENTENCES.end();
     }
 
-    private static void numbersAndLimits() {
+    // Models that break one rule of the terms.
+
+    private static Model halvedBy(IntBinaryOperator half) {
+        return new Model() {
+            @Override
+            int halfWay(int a, int b) {
+                return half.applyAsInt(a, b);
+            }
+        };
+    }
+
+    private static Model spreadBy(SpreadMark mark) {
+        return new Model() {
+            @Override
+            int spreadMark(int start, int marks, int i, int n) {
+                return mark.of(start, marks, i, n);
+            }
+        };
+    }
+
+    private static Model shelvedBy(IntBinaryOperator shelf) {
+        return new Model() {
+            @Override
+            int shelfOf(int mark, int level) {
+                return shelf.applyAsInt(mark, level);
+            }
+        };
+    }
+
+    private static Model movedIf(BiPredicate<Integer, Integer> isMove) {
+        return new Model() {
+            @Override
+            boolean isMove(Integer before, int after) {
+                return isMove.test(before, after);
+            }
+        };
+    }
+
+    private static Model numberedBy(ToIntFunction<Model> number) {
+        return new Model() {
+            @Override
+            int newNumber() {
+                return number.applyAsInt(this);
+            }
+        };
+    }
+
+    // What the sentences say.
+
+    private static void marksAndCalls() {
         SENTENCES.holds("What it is: of two folders the one that stands ahead has the lower mark",
                 MarksSentencesTest::marksRise,
-                () -> new Model() {
-                    @Override
-                    int halfWay(int a, int b) {
-                        return b;
-                    }
-                },
-                () -> new Model() {
-                    @Override
-                    int spreadMark(int start, int marks, int i, int n) {
-                        return super.spreadMark(start, marks, n - 1 - i, n);
-                    }
-                });
+                () -> halvedBy((a, b) -> b),
+                () -> spreadBy((start, marks, i, n) -> start + (n - 1 - i) * marks / n));
         SENTENCES.holds("What it is: an object is used for at most 512 calls (the 512th is answered)",
                 MarksSentencesTest::theLastCall,
                 () -> new Model() {
@@ -47,14 +97,12 @@ public final class MarksSentencesTest {
                         return days < 450 ? super.size() : 0;
                     }
                 });
+    }
+
+    private static void numbers() {
         SENTENCES.holds("Terms: folders are numbered from 0 as they come",
                 MarksSentencesTest::numbersFromNull,
-                () -> new Model() {
-                    @Override
-                    int newNumber() {
-                        return came + 1;
-                    }
-                },
+                () -> numberedBy(model -> model.came + 1),
                 () -> new Model() {
                     @Override
                     public int carry(int folder, int other) {
@@ -64,43 +112,25 @@ public final class MarksSentencesTest {
                 });
         SENTENCES.holds("Terms: a number is never used again",
                 MarksSentencesTest::numbersNeverAgain,
-                () -> new Model() {
-                    @Override
-                    int newNumber() {
-                        return order.size();
-                    }
-                },
-                () -> new Model() {
-                    @Override
-                    int newNumber() {
-                        int highest = -1;
-                        for (int one : order) {
-                            highest = Math.max(highest, one);
-                        }
-                        return highest + 1;
-                    }
-                });
+                () -> numberedBy(model -> model.order.size()),
+                () -> numberedBy(model -> model.order.isEmpty() ? 0 : Collections.max(model.order) + 1));
+    }
+
+    private static void limits() {
         SENTENCES.holds("Terms: 200 can come in all", MarksSentencesTest::twoHundredInAll,
                 () -> limits(199, 60), () -> limits(201, 60), () -> limits(1000, 60));
         SENTENCES.holds("Terms: 60 be in the archive at a time", MarksSentencesTest::sixtyAtATime,
                 () -> limits(200, 59), () -> limits(200, 61), () -> limits(60, 60));
+    }
+
+    private static void rangeOfMarks() {
         SENTENCES.holds("Terms: marks are 0 to 255 (0 is given)", MarksSentencesTest::lowestMark,
                 () -> marksWithin(1, 255));
         SENTENCES.holds("Terms: marks are 0 to 255 (255 is given)", MarksSentencesTest::highestMark,
                 () -> marksWithin(0, 254));
         SENTENCES.holds("Terms: marks are 0 to 255 (no other is given)", MarksSentencesTest::noOtherMark,
-                () -> new Model() {
-                    @Override
-                    int spreadMark(int start, int marks, int i, int n) {
-                        return start + i * marks / (n - 1);
-                    }
-                },
-                () -> new Model() {
-                    @Override
-                    int spreadMark(int start, int marks, int i, int n) {
-                        return start + i * marks / n - 1;
-                    }
-                });
+                () -> spreadBy((start, marks, i, n) -> start + i * marks / (n - 1)),
+                () -> spreadBy((start, marks, i, n) -> start + i * marks / n - 1));
     }
 
     private static Model limits(int inAll, int atATime) {
@@ -132,12 +162,7 @@ public final class MarksSentencesTest {
     }
 
     private static Model marksWithin(int lowest, int highest) {
-        return new Model() {
-            @Override
-            int halfWay(int a, int b) {
-                return Math.max(lowest, Math.min(highest, super.halfWay(a, b)));
-            }
-        };
+        return halvedBy((a, b) -> Math.max(lowest, Math.min(highest, (a + b) / 2)));
     }
 
     private static void marksRise(Trial t) {
@@ -220,47 +245,17 @@ public final class MarksSentencesTest {
     private static void shelves() {
         SENTENCES.holds("Terms: a shelf of the level k, 0 to 8, has 2 to the power of k marks",
                 MarksSentencesTest::marksOfAShelf,
-                () -> new Model() {
-                    @Override
-                    int shelfOf(int mark, int level) {
-                        return super.shelfOf(mark, level + 1);
-                    }
-                },
-                () -> new Model() {
-                    @Override
-                    int shelfOf(int mark, int level) {
-                        return level == 0 ? mark : mark / (2 * level);
-                    }
-                });
+                () -> shelvedBy((mark, level) -> mark >> (level + 1)),
+                () -> shelvedBy((mark, level) -> level == 0 ? mark : mark / (2 * level)));
         SENTENCES.holds("Terms: marks of a shelf, that follow one another", MarksSentencesTest::marksFollow,
-                () -> new Model() {
-                    @Override
-                    int shelfOf(int mark, int level) {
-                        return mark % (256 / marksOf(level));
-                    }
-                });
+                () -> shelvedBy((mark, level) -> mark % (256 >> level)));
         SENTENCES.holds("Terms: the shelf 0 of each level begins with the mark 0",
                 MarksSentencesTest::shelfNullBegins,
-                () -> new Model() {
-                    @Override
-                    int shelfOf(int mark, int level) {
-                        return super.shelfOf(mark + 1, level);
-                    }
-                },
-                () -> new Model() {
-                    @Override
-                    int shelfOf(int mark, int level) {
-                        return super.shelfOf(255 - mark, level);
-                    }
-                });
+                () -> shelvedBy((mark, level) -> (mark + 1) >> level),
+                () -> shelvedBy((mark, level) -> (255 - mark) >> level));
         SENTENCES.holds("Terms: each shelf of a level above 0 is two of the level below",
                 MarksSentencesTest::twoOfTheLevelBelow,
-                () -> new Model() {
-                    @Override
-                    int shelfOf(int mark, int level) {
-                        return level == 4 ? (mark + 8) % 256 / 16 : super.shelfOf(mark, level);
-                    }
-                });
+                () -> shelvedBy((mark, level) -> level == 4 ? (mark + 8) % 256 >> 4 : mark >> level));
     }
 
     /** The marks are 0 1 3 7 15 31 63 127: the shelf 0 of the level k has those up to 2 to the power of k, less 1. */
@@ -374,25 +369,10 @@ public final class MarksSentencesTest {
         SENTENCES.holds("Terms: otherwise (b is 1 more than a)", MarksSentencesTest::oneMore,
                 () -> freeFrom(1));
         SENTENCES.holds("Terms: its mark is a and b, together, divided by 2", MarksSentencesTest::half,
-                () -> new Model() {
-                    @Override
-                    int halfWay(int a, int b) {
-                        return a + 1;
-                    }
-                },
-                () -> new Model() {
-                    @Override
-                    int halfWay(int a, int b) {
-                        return b - 1;
-                    }
-                });
+                () -> halvedBy((a, b) -> a + 1),
+                () -> halvedBy((a, b) -> b - 1));
         SENTENCES.holds("Terms: a and b, together, divided by 2, rounded down", MarksSentencesTest::roundedDown,
-                () -> new Model() {
-                    @Override
-                    int halfWay(int a, int b) {
-                        return (a + b + 1) / 2;
-                    }
-                });
+                () -> halvedBy((a, b) -> (a + b + 1) / 2));
     }
 
     private static Model freeFrom(int difference) {
@@ -571,19 +551,10 @@ public final class MarksSentencesTest {
     private static void spreadingOut() {
         SENTENCES.holds("Terms: the folders of that shelf and the new one, n together",
                 MarksSentencesTest::alltogether,
-                () -> new Model() {
-                    @Override
-                    int spreadMark(int start, int marks, int i, int n) {
-                        return super.spreadMark(start, marks, i, n + 1);
-                    }
-                },
-                () -> new Model() {
-                    @Override
-                    List<Integer> together(int level, int shelf, int newOne) {
-                        List<Integer> those = super.together(level, shelf, newOne);
-                        return those.subList(0, those.size() - 1);
-                    }
-                });
+                () -> spreadBy((start, marks, i, n) -> start + i * marks / (n + 1)),
+                () -> spreadBy((start, marks, i, n) -> start + i * marks / (n - 1)));
+        SENTENCES.holds("Terms: the folders of that shelf (and no other one)", MarksSentencesTest::noOther,
+                () -> withAnother(true), () -> withAnother(false));
         SENTENCES.holds("Terms: in their order", MarksSentencesTest::inTheirOrder,
                 () -> new Model() {
                     @Override
@@ -595,61 +566,49 @@ public final class MarksSentencesTest {
                     }
                 });
         SENTENCES.holds("Terms: the i-th one, i from 0", MarksSentencesTest::fromNull,
-                () -> new Model() {
-                    @Override
-                    int spreadMark(int start, int marks, int i, int n) {
-                        return super.spreadMark(start, marks, i + 1, n);
-                    }
-                });
+                () -> spreadBy((start, marks, i, n) -> start + (i + 1) * marks / n));
         SENTENCES.holds("Terms: gets the first mark of the shelf and .., together", MarksSentencesTest::firstMarkOfTheShelf,
-                () -> new Model() {
-                    @Override
-                    int spreadMark(int start, int marks, int i, int n) {
-                        return super.spreadMark(0, marks, i, n);
-                    }
-                });
+                () -> spreadBy((start, marks, i, n) -> i * marks / n));
         SENTENCES.holds("Terms: i times the marks of the shelf divided by n, rounded down",
                 MarksSentencesTest::dividedRoundedDown,
-                () -> new Model() {
-                    @Override
-                    int spreadMark(int start, int marks, int i, int n) {
-                        return start + (i * marks + n - 1) / n;
-                    }
-                },
-                () -> new Model() {
-                    @Override
-                    int spreadMark(int start, int marks, int i, int n) {
-                        return start + i * (marks / n);
-                    }
-                });
+                () -> spreadBy((start, marks, i, n) -> start + (i * marks + n - 1) / n),
+                () -> spreadBy((start, marks, i, n) -> start + i * (marks / n)));
         SENTENCES.holds("Terms: a folder that has another mark than before is moved by that",
                 MarksSentencesTest::anotherMark,
-                () -> new Model() {
-                    @Override
-                    boolean isMove(Integer before, int after) {
-                        return before != null && before < after;
-                    }
-                },
-                () -> new Model() {
-                    @Override
-                    boolean isMove(Integer before, int after) {
-                        return before != null && before > after;
-                    }
-                });
+                () -> movedIf((before, after) -> before != null && before < after),
+                () -> movedIf((before, after) -> before != null && before > after));
         SENTENCES.holds("Terms: one that keeps its mark, and the new one, are not moved",
                 MarksSentencesTest::theSameMark,
-                () -> new Model() {
-                    @Override
-                    boolean isMove(Integer before, int after) {
-                        return before != null;
-                    }
-                },
-                () -> new Model() {
-                    @Override
-                    boolean isMove(Integer before, int after) {
-                        return before == null || super.isMove(before, after);
-                    }
-                });
+                () -> movedIf((before, after) -> before != null),
+                () -> movedIf((before, after) -> !after.equals(before)));
+    }
+
+    /** The folder directly ahead of the shelf, or directly behind it, is brought next to it as well. */
+    private static Model withAnother(boolean isAhead) {
+        return new Model() {
+            @Override
+            List<Integer> together(int level, int shelf, int newOne) {
+                List<Integer> those = super.together(level, shelf, newOne);
+                int before = order.indexOf(those.get(0)) - 1;
+                int after = before + those.size() + 1;
+                if (isAhead && before >= 0) {
+                    markOf.put(order.get(before), shelf * marksOf(level) - 1);
+                }
+                if (!isAhead && after < order.size()) {
+                    markOf.put(order.get(after), (shelf + 1) * marksOf(level));
+                }
+                return those;
+            }
+        };
+    }
+
+    private static void noOther(Trial t) {
+        Archive x = t.allPutLast(9);
+        x.takeOut(4);
+        x.putBehind(8);
+        t.marks(x, "239 stays ahead of 248 to 255", 127, 191, 223, 239, 248, 249, 251, 252, 254);
+        Archive y = t.allPutFirst(9);
+        t.marks(y, "15 stays behind 0 to 7", 0, 1, 3, 4, 6, 15, 31, 63, 127);
     }
 
     /** The shelf of level 3 with 251 253 254 255, and the new one: five over 248 to 255. */
@@ -702,5 +661,9 @@ public final class MarksSentencesTest {
         Archive x = t.allPutFirst(8);
         x.putBehind(7);
         t.same("0 stays 0; 1 to 3, 3 to 4, 7 to 6; the new one had none", 3, x.moved());
+        Archive y = t.allBehindTheFirst(8);
+        y.putBehind(7);
+        t.marks(y, "behind 128", 127, 128, 129, 131, 132, 134, 143, 159, 191);
+        t.same("128 stays 128; 129 to 131, 131 to 132, 135 to 134", 3, y.moved());
     }
 }

@@ -97,10 +97,12 @@ public final class ModelTest {
         int s = below(4);
         switch (random.nextInt(12)) {
             case 0 -> compare(seed, i, "takeOut(" + f + ")", () -> model.takeOut(f), () -> real.takeOut(f));
-            case 1, 2, 3 -> compare(seed, i, "carry(" + f + ", " + g + ")", () -> model.carry(f, g), () -> real.carry(f, g));
+            case 1, 2, 3 -> compare(seed, i, "carry(" + f + ", " + g + ")",
+                    () -> model.carry(f, g), () -> real.carry(f, g));
             case 4, 5 -> compare(seed, i, "seat(" + r + ", " + f + ")", () -> model.seat(r, f), () -> real.seat(r, f));
             case 6, 7 -> compare(seed, i, "passDay()", model::passDay, real::passDay);
-            case 8 -> compare(seed, i, "daysTo(" + r + ", " + s + ")", () -> model.daysTo(r, s), () -> real.daysTo(r, s));
+            case 8 -> compare(seed, i, "daysTo(" + r + ", " + s + ")",
+                    () -> model.daysTo(r, s), () -> real.daysTo(r, s));
             case 9 -> compare(seed, i, "wouldMove(" + f + ")", () -> model.wouldMove(f), () -> real.wouldMove(f));
             default -> askingCall(seed, i, f, r);
         }

@@ -11,12 +11,16 @@ public final class OrderSentencesTest {
         putBehind();
         takeOut();
         carry();
+        carryWithItsReaders();
+        carriedMark();
         carryAsANewOne();
         sizeAndFirst();
-        nextAndPrevious();
+        next();
+        previous();
         hasAndMark();
         ahead();
         from();
+        fromOutside();
         SENTENCES.end();
     }
 
@@ -305,6 +309,9 @@ public final class OrderSentencesTest {
                         return next(other) == folder ? mark(folder) : super.carry(folder, other);
                     }
                 });
+    }
+
+    private static void carryWithItsReaders() {
         SENTENCES.holds("Promise 5: readers at it stay with it", OrderSentencesTest::readersStay,
                 () -> new Model() {
                     @Override
@@ -325,6 +332,9 @@ public final class OrderSentencesTest {
                         return super.carry(folder, other);
                     }
                 });
+    }
+
+    private static void carriedMark() {
         SENTENCES.holds("Promise 5: (its own mark does not count as moved)", OrderSentencesTest::ownMarkIsNotMoved,
                 () -> new Model() {
                     @Override
@@ -557,7 +567,7 @@ public final class OrderSentencesTest {
         t.same("an archive emptied again", -1, x.first());
     }
 
-    private static void nextAndPrevious() {
+    private static void next() {
         SENTENCES.holds("Promise 8: the folder directly behind one", OrderSentencesTest::next,
                 () -> new Model() {
                     @Override
@@ -585,6 +595,9 @@ public final class OrderSentencesTest {
                         return super.next(folder) == NONE ? folder : super.next(folder);
                     }
                 });
+    }
+
+    private static void previous() {
         SENTENCES.holds("Promise 9: the folder directly ahead of one", OrderSentencesTest::previous,
                 () -> new Model() {
                     @Override
@@ -803,6 +816,9 @@ public final class OrderSentencesTest {
                         return isBelow ? previous(found) : found;
                     }
                 });
+    }
+
+    private static void fromOutside() {
         SENTENCES.holds("Promise 13: -1 if there is none", OrderSentencesTest::fromNone,
                 () -> new Model() {
                     @Override

@@ -1,5 +1,6 @@
 import java.util.HashSet;
 import java.util.Set;
+import java.util.function.IntUnaryOperator;
 
 /** The sentences of "Terms" on readers, and of the promises 20 to 24, but for what a call throws (ThrowsTest). */
 public final class ReadersSentencesTest {
@@ -48,6 +49,7 @@ public final class ReadersSentencesTest {
 
     private static void fourOfThem(Trial t) {
         Archive x = t.allPutLast(4);
+        x.passDay();
         for (int reader = 0; reader < 4; reader++) {
             t.same("seat(" + reader + ", " + reader + ")", 1, x.seat(reader, reader));
         }
@@ -220,9 +222,11 @@ public final class ReadersSentencesTest {
     private static void takenOut() {
         SENTENCES.holds("Terms: when a folder is taken out, readers at it go on to the next one at once",
                 ReadersSentencesTest::goOnAtOnce,
-                () -> whenTakenOut(0, 3), () -> whenTakenOut(1, 1), () -> whenTakenOut(2, 3));
+                () -> whenTakenOut(folder -> -1, 4), () -> whenTakenOut(folder -> 0, 4),
+                () -> whenTakenOut(folder -> folder - 1, 4), () -> whenTakenOut(folder -> -1, 1));
         SENTENCES.holds("Terms: when the last one is taken out, readers at it leave",
-                ReadersSentencesTest::leaveAtOnce, () -> whenTakenOut(1, 3), () -> whenTakenOut(3, 3));
+                ReadersSentencesTest::leaveAtOnce,
+                () -> whenTakenOut(folder -> 0, 4), () -> whenTakenOut(folder -> folder - 1, 4));
         SENTENCES.holds("Terms: without having read it", ReadersSentencesTest::withoutHavingReadIt,
                 () -> new Model() {
                     @Override
@@ -235,17 +239,14 @@ public final class ReadersSentencesTest {
                 });
     }
 
-    /** 0: readers leave; 1: they go back by one; 2: they go to the first one; 3: from the last one they stay away. */
-    private static Model whenTakenOut(int kind, int lastReader) {
+    /** So many of the readers go elsewhere than to the next one, when their folder is taken out. */
+    private static Model whenTakenOut(IntUnaryOperator elsewhere, int readers) {
         return new Model() {
             @Override
             public int takeOut(int folder) {
                 known(folder);
-                int before = previous(folder);
-                for (int reader = 0; reader <= lastReader; reader++) {
-                    if (seats[reader] == folder) {
-                        seats[reader] = kind == 0 ? NONE : kind == 1 ? before : first();
-                    }
+                for (int reader = 0; reader < readers; reader++) {
+                    seats[reader] = seats[reader] == folder ? elsewhere.applyAsInt(folder) : seats[reader];
                 }
                 return super.takeOut(folder);
             }

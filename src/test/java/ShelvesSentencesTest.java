@@ -226,6 +226,7 @@ public final class ShelvesSentencesTest {
         t.same("behind 253, which is alone on its shelf of level 1: to 252", 1, y.wouldMove(6));
         Archive z = t.allBehindTheFirst(8);
         t.same("behind 127: to 126", 1, z.wouldMove(0));
+        t.same("behind 128, which stays: 129 to 131, 131 to 132, 135 to 134", 3, z.wouldMove(7));
     }
 
     private static void wouldMoveNone(Trial t) {

@@ -65,6 +65,7 @@ public final class ThrowsTest {
         }
         x.putBehind(0);
         x.seat(2, 0);
+        x.passDay();
     }
 
     /** Calls that change something, for what a refused call left to be seen later. */
@@ -158,11 +159,14 @@ public final class ThrowsTest {
 
     private static void emptyArchive(Trial t) {
         for (int number : new int[] {-1, 0, 1, Integer.MAX_VALUE, Integer.MIN_VALUE}) {
-            t.outOfBounds("new: putBehind(" + number + ")", () -> t.fresh().putBehind(number));
-            t.outOfBounds("new: takeOut(" + number + ")", () -> t.fresh().takeOut(number));
+            Archive x = t.fresh();
+            x.passDay();
+            t.outOfBounds("new: putBehind(" + number + ")", () -> x.putBehind(number));
+            t.outOfBounds("new: takeOut(" + number + ")", () -> x.takeOut(number));
         }
         Archive x = t.fresh();
         x.takeOut(x.putFirst());
+        x.passDay();
         t.outOfBounds("emptied: putBehind(0)", () -> x.putBehind(0));
         t.outOfBounds("emptied: takeOut(0)", () -> x.takeOut(0));
         t.same("emptied: size()", 0, x.size());
@@ -255,19 +259,26 @@ public final class ThrowsTest {
         };
     }
 
-    /** Both limits are others than due, but for one of the two methods alone. */
+    /** Both limits are others than due, but for one of the two methods alone, and from the first day on. */
     private static Model limitOf(String method, int inAll, int atATime) {
         return new Model() {
             private String called = "";
+            private boolean hasDayPassed;
 
             @Override
             int inAll() {
-                return called.equals(method) ? inAll : super.inAll();
+                return hasDayPassed && called.equals(method) ? inAll : super.inAll();
             }
 
             @Override
             int atATime() {
-                return called.equals(method) ? atATime : super.atATime();
+                return hasDayPassed && called.equals(method) ? atATime : super.atATime();
+            }
+
+            @Override
+            public int passDay() {
+                hasDayPassed = true;
+                return super.passDay();
             }
 
             @Override
@@ -301,6 +312,7 @@ public final class ThrowsTest {
         Archive x = t.afterManyCame(199);
         x.carry(0, 198);
         x.carry(198, 0);
+        x.passDay();
         t.same("199 came: " + what, "199", Checks.told(() -> coming.come(x)));
         t.illegalState("200 came: " + what, () -> coming.come(x));
         x.takeOut(198);
@@ -352,6 +364,7 @@ public final class ThrowsTest {
 
     private static void noLevelAndNoShelf(Trial t) {
         Archive x = t.allPutFirst(8);
+        x.passDay();
         for (int level : new int[] {-1, 9, Integer.MAX_VALUE, Integer.MIN_VALUE}) {
             for (int shelf : new int[] {-1, 1, 256, Integer.MAX_VALUE, Integer.MIN_VALUE}) {
                 t.outOfBounds("load(" + level + ", " + shelf + ")", () -> x.load(level, shelf));
@@ -399,6 +412,7 @@ public final class ThrowsTest {
 
     private static void bothWrong(Trial t) {
         Archive x = t.allPutLast(3);
+        x.passDay();
         for (int one : new int[] {-1, 4, Integer.MAX_VALUE, Integer.MIN_VALUE}) {
             for (int other : new int[] {-1, 4, 9, Integer.MAX_VALUE, Integer.MIN_VALUE}) {
                 t.outOfBounds("daysTo(" + one + ", " + other + ")", () -> x.daysTo(one, other));
